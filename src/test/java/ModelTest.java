@@ -9,7 +9,7 @@ public final class ModelTest {
     private static final int RUNS = 3000;
     private static final int CALLS = 512 - 2 * Checks.SLOTS;
     private static final int ROUND_THE_RING = 40_000;
-    // A slot or two wrong now and then; the used ones are few, so that runs meet what they made.
+    // Few slots are used, so that runs meet again what they made.
     private static final int USED_SLOTS = 4;
 
     public static void main(String[] args) {

@@ -40,7 +40,7 @@ public final class PromiseTest {
         return shelf;
     }
 
-    /** The builder has 3000 elements. Its 1000 extra calls are over the document's 512, so few are made behind it. */
+    /** The builder has 3000 elements. No run of 512 calls reaches so many, so that FULL is tested behind more calls. */
     private static void openFull(RadixShelf shelf) {
         shelf.fill(0, 0, 1, 2000);
         shelf.open(0);
