@@ -79,8 +79,8 @@ public final class RadixShelf {
     public int cut(int slot, int from, int front, int back) throws IllegalArgumentException, NoSuchElementException {
         checkSlot(slot);
         checkSlot(from);
-        checkRange(front, 0, Integer.MAX_VALUE);
-        checkRange(back, 0, Integer.MAX_VALUE);
+        checkNotNegative(front);
+        checkNotNegative(back);
         // As a long, since the sum of two ints may wrap.
         if ((long) front + back > slots[from].count) {
             throw new NoSuchElementException("fewer elements than are to be cut");
@@ -171,6 +171,12 @@ public final class RadixShelf {
     private static void checkRange(int number, int least, int most) {
         if (number < least || number > most) {
             throw new IllegalArgumentException("a number is out of range");
+        }
+    }
+
+    private static void checkNotNegative(int number) {
+        if (number < 0) {
+            throw new IllegalArgumentException("a number is less than 0");
         }
     }
 

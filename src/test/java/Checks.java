@@ -131,7 +131,7 @@ final class Checks {
     }
 
     static void finish(String name) {
-        String about = sentences == 0 ? "" : sentences + " sentences, ";
+        String about = sentences == 0 ? "" : "sentences tested: " + sentences + ", ";
         String end = wrong == 0 ? "all answers are as due" : wrong + " answers are not as due";
         System.out.println(name + ": " + about + end);
         if (wrong != 0) {
